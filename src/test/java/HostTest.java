@@ -113,6 +113,12 @@ public final class HostTest {
         for (int what = 0; what < 4; what++) due("46: they came", x.promised(0, what), want[what]);
         due("46: what they came from stays", x.promisesBy(0, 2, 1, 1), 1);
         due("46: nothing else came", x.promisesBy(1, 2, 0, 1), 0);
+        x.sheet(3, 2, 5);
+        due("46: to the last SHEET", x.copy(0, 0, 3, 0, 5), 5);
+        x.cell(0, 1, 0);
+        due("46: from the last SHEET", x.copy(3, 0, 0, 0, 5), 5);
+        due("47: by the last SHEET", x.promisesBy(3, 2, 1, 1), 1);
+        due("46: it came back", x.promisesBy(0, 2, 1, 1), 1);
     }
 
     private static void copyItself() {

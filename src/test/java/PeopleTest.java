@@ -60,10 +60,15 @@ public final class PeopleTest {
         x.person(3, 472, 129, 507);
         int[] want = {3, 4, 7, 2, 129, 5, 7};
         for (int what = 0; what < 7; what++) due("11: told(0, " + what + ")", x.told(0, what), want[what]);
+        x.person(0, 0, 0, 100);
+        due("11: PAINS 1", x.told(1, 5), 1);
+        due("11: ROOM 0", x.told(1, 6), 0);
         due("11: above", x.told(0, 13), -7);
         due("11: below", x.told(0, -1), -7);
-        due("11: no such one", x.told(1, 0), -5);
+        due("11: no such one", x.told(2, 0), -5);
         due("11: no such one ahead of what", x.told(-1, 99), -5);
+        x = new WhoeverHeard();
+        x.person(3, 472, 129, 507);
         places(x, 0, 4, 4, 0, 0, 0, 0);
         x.person(1, 400, 0, 100);
         places(x, 1, 4, 5, 0, 1, 2, 3);

@@ -149,6 +149,8 @@ public final class SayerTest {
         due("28: far 4", x.loud(0, 4, 0), 6);
         due("28: far 5", x.loud(0, 5, 0), 8);
         due("28: at MINUTE 4", x.loud(0, 4, 4), 1);
+        x.far(0, 5, 6);
+        due("28: far 6", x.loud(0, 5, 0), 9);
         x.far(0, 5, 7);
         due("28: far 7", x.loud(0, 5, 0), -1);
         due("28: PLACE below", x.loud(0, -1, 0), -7);
@@ -240,7 +242,25 @@ public final class SayerTest {
         int[] want = {1, 3, 1};
         for (int p = 0; p < 3; p++) due("30: of like ones the first", x.even(0, p), want[p]);
         due("31: hardest", x.hardest(0), 3);
-        due("30: what is owed stays", x.owe(0, 0), 5);
+        x.promise(0, 2, 5, -1);
+        x.say(1, 1);
+        want = new int[] {1, 1, 0};
+        for (int p = 0; p < 3; p++) due("30: the first, not the last", x.even(1, p), want[p]);
+        x = new WhoeverHeard();
+        x.promise(0, 3, 5, -1);
+        x.person(0, 0, 1, 399);
+        x.person(0, 0, 1, 199);
+        x.say(0, 1);
+        // One 1 twice (1, 2); then 3 of both.
+        due("30: how much he has, and 1", x.even(0, 0), 1);
+        due("30: how much he has, and 1", x.even(0, 1), 2);
+        x = new WhoeverHeard();
+        x.promise(0, 3, 5, -1);
+        x.person(0, 0, 1, 199);
+        x.person(0, 0, 1, 199);
+        x.say(0, 1);
+        x.even(0, 0);
+        due("30: what is owed stays", x.owe(0, 0), 3);
     }
 
     private static void fleeAndSend() {
@@ -271,6 +291,17 @@ public final class SayerTest {
         due("32: of more", x.flee(0, 0), 0);
         due("32: of more", x.flee(0, 1), 10);
         due("32: still MOVED", x.told(0, 7), 2);
+        for (int u = 0; u < 6; u++) {
+            WhoeverHeard y = new WhoeverHeard();
+            y.person(0, 0, 1, 199);
+            y.promise(0, 10, 5, -1);
+            for (int v = 0; v < 6; v++) {
+                for (int w = 0; w < v; w++) y.far(v, w, 9);
+            }
+            y.say(0, 100 * u + 1);
+            due("32: the first other one", y.flee(0, 0), u == 0 ? 1 : 0);
+            due("33: the one", y.send(0, 0), u);
+        }
         // A share by how many hear it: one's going changes it.
         x.person(0, 0, 1, 199);
         x.force(Due.read(x, "heard 100 - far * 51; share many * 7 + loud; pain 0;"));

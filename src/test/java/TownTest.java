@@ -177,6 +177,19 @@ public final class TownTest {
         heardFault("pain", 0);
         heardFault("#", 0);
         heardFault("1 \r", 2);
+        for (char sign = 0; sign < 256; sign++) {
+            boolean known = sign == ' ' || sign == '\n' || "();+-*<=".indexOf(sign) >= 0
+                || sign >= '0' && sign <= '9' || sign >= 'a' && sign <= 'z';
+            if (known) continue;
+            fault(sign + " 1; share 2; pain 3;", 0);
+            heardFault(sign + "", 0);
+            heardFault("1 " + sign + " 1", 2);
+            heardFault("1" + sign, 1);
+        }
+        fault("a".repeat(160), 0);
+        fault("1".repeat(160), 0);
+        fault(" ".repeat(160), 160);
+        fault("heard " + "(".repeat(5) + "1 ".repeat(74) + " ", 13);
         heardFault("1 + ", 4);
         heardFault("* 1", 0);
         heardFault("1 * * 1", 4);
@@ -244,6 +257,10 @@ public final class TownTest {
         value("9 - (3 - 2)", 8);
         value("- 3 * - 5", 15);
         value("- - 8", 8);
+        value("9 + - 2", 7);
+        value("9 + 5 * - - 2", 19);
+        value("9 + (not 0)", 10);
+        value("9 + (not 4)", 9);
         value("7 + (2 < 3)", 8);
         value("7 + (3 < 3)", 7);
         value("7 + (3 = 3)", 8);
