@@ -189,6 +189,8 @@ public final class TownTest {
         fault("a".repeat(160), 0);
         fault("1".repeat(160), 0);
         fault(" ".repeat(160), 160);
+        fault("(".repeat(160), 0);
+        fault("heard" + "(".repeat(155), 10);
         fault("heard " + "(".repeat(5) + "1 ".repeat(74) + " ", 13);
         heardFault("1 + ", 4);
         heardFault("* 1", 0);
