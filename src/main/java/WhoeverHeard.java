@@ -588,13 +588,14 @@ public final class WhoeverHeard {
 
     public long odds(int q, int seed, int many, int part) {
         if (!vows.has(q) || !within(seed, 0, LAST_SEED) || !within(many, 1, MOST_SEEDS)
-            || seed + many - 1 > LAST_SEED || !within(part, 0, 1)) {
+            || !within(part, 0, 1)) {
             return NO;
         }
         ledger.listen(texts.law);
         int times = 0;
         for (int i = 0; i < many; i++) {
-            ledger.draw(seed + i);
+            // No seed is above the last one: each further one is that one again.
+            ledger.draw(Math.min(seed + i, LAST_SEED));
             if (ledger.keeps(q)) {
                 times++;
             }

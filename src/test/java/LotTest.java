@@ -12,6 +12,7 @@ public final class LotTest {
         drawn();
         drawnMany();
         odds();
+        oddsOfTheLastSeeds();
         image();
         imageAndThoseWhoCame();
         Due.end();
@@ -256,7 +257,6 @@ public final class LotTest {
         due("41: another PROMISE", x.odds(1, 0, 20, 1), 1);
         due("41: the last SEED", x.odds(1, 99999, 1, 1), 1);
         due("41: the last SEEDS", x.odds(1, 99980, 20, 1), 1);
-        due("41: one more than there are", x.odds(1, 99981, 20, 1), NO);
         due("41: seed above", x.odds(1, 100000, 1, 1), NO);
         due("41: seed most", x.odds(1, Integer.MAX_VALUE, 20, 1), NO);
         due("41: seed below", x.odds(1, -1, 5, 1), NO);
@@ -266,6 +266,32 @@ public final class LotTest {
         due("41: part above", x.odds(1, 0, 1, 2), NO);
         due("41: PROMISE below", x.odds(-1, 0, 1, 0), NO);
         due("41: PROMISE above", x.odds(2, 0, 1, 0), NO);
+    }
+
+    private static void oddsOfTheLastSeeds() {
+        WhoeverHeard x = new WhoeverHeard();
+        x.promise(0, 10, 5, -1);
+        due("41: of nobody", x.odds(0, 99999, 2, 0), 0);
+        due("41: of nobody", x.odds(0, 99999, 2, 1), 1);
+        x.person(0, 0, 1, 199);
+        x.say(0, 1);
+        x.force(Due.read(x, "heard 50; share need; pain need;"));
+        // The first LOTS of SEEDS 99996 .. 99999, modulo 100: 93 64 35 6; each further seed is 99999, too.
+        due("41: the last one alone", x.odds(0, 99999, 1, 0), 1);
+        due("41: all by the last one", x.odds(0, 99999, 20, 0), 1);
+        due("41: all by the last one", x.odds(0, 99999, 20, 1), 1);
+        due("41: up to the last one", x.odds(0, 99997, 3, 0), 2);
+        due("41: up to the last one", x.odds(0, 99997, 3, 1), 3);
+        due("41: past the last one", x.odds(0, 99997, 5, 0), 4);
+        due("41: past the last one", x.odds(0, 99997, 5, 1), 5);
+        due("41: 18 by 20", x.odds(0, 99996, 20, 0), 9);
+        due("41: 18 by 20", x.odds(0, 99996, 20, 1), 10);
+        x.force(Due.read(x, "heard 6; share need; pain need;"));
+        due("41: not by the last one", x.odds(0, 99999, 20, 0), 0);
+        due("41: not by the last one", x.odds(0, 99999, 20, 1), 1);
+        due("41: part above", x.odds(0, 99999, 20, 2), NO);
+        due("41: too many", x.odds(0, 99999, 21, 0), NO);
+        due("41: seed above", x.odds(0, 100000, 1, 0), NO);
     }
 
     private static void image() {

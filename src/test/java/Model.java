@@ -555,9 +555,12 @@ final class Model {
         return in(seed, 0, 99999) && in(what, 0, 2) ? new Day(law, sayings, seed).outcome(what) : -2;
     }
     long odds(int q, int seed, int many, int part) {
-        if (!vow(q) || !in(seed, 0, 99999) || !in(many, 1, 20) || !in(part, 0, 1) || seed + many > 100000) return NO;
+        if (!vow(q) || !in(seed, 0, 99999) || !in(many, 1, 20) || !in(part, 0, 1)) return NO;
         int times = 0;
-        for (int i = seed; i < seed + many; i++) if (new Day(law, sayings, i).keeps(q)) times++;
+        for (int i = 0, next = seed; i < many; i++) {
+            if (new Day(law, sayings, next).keeps(q)) times++;
+            if (next < 99999) next++;
+        }
         for (int d = many; d > 1; d--) {
             if (times % d == 0 && many % d == 0) {
                 times /= d;
