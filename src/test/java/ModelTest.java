@@ -2,7 +2,7 @@ import java.util.Random;
 
 /** Long runs of drawn calls: each answer beside the model's. */
 public final class ModelTest {
-    private static final int RUNS = 400, CALLS = 512;
+    private static final int RUNS = 400, CALLS = 440;
     private static final int[] EDGES = {Integer.MIN_VALUE, -100, -2, -1, 6, 7, 8, 10, 13, 16, 40, 41, 99, 100,
         256, 600, 1000, 99999, 100000, 65536, Integer.MAX_VALUE};
     private static final String[] TEXTS = {
