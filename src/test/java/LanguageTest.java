@@ -109,6 +109,11 @@ public final class LanguageTest {
         while (system.find()) holds("4: System." + system.group(1), system.group(1).equals("arraycopy"));
         Matcher maths = Pattern.compile("\\b(Math|Integer)\\.(\\w+)").matcher(code);
         while (maths.find()) holds("4: " + maths.group(), Set.of("max", "min", "abs", "bitCount").contains(maths.group(2)));
+        for (String line : code.split("\n")) {
+            if (!Pattern.compile("\\bnew\\b").matcher(line).find()) continue;
+            holds("12: all rows and parts are made with the object: " + line,
+                line.matches(" +(private )?final [\\w\\[\\]]+ \\w+ = new .*;") || line.matches(" {8}\\w+ = new [A-Z]\\w+\\(.*\\);"));
+        }
         int since = 0;
         String indent = null;
         for (String line : code.split("\n")) {
